@@ -875,7 +875,7 @@ public final class PromisesTest {
                 visit 3 = 0
                 visit 4 = 0
                 line 4 = 1
-                """ + FORM_AT_0 + """
+                """ + FORM_AT_0.repeat(2) + """
                 send 0 safe = 2
                 visit 0 = 1
                 line 0 = 0
@@ -1249,6 +1249,14 @@ public final class PromisesTest {
                 visit 0 = 2
                 reach 2 = 2
                 reach 3 = 4
+                """);
+        script.run("15 what is held counts, delivered or not", """
+                send 0 safe = 1
+                send 0 agreed = 2
+                visit 0 = 2
+                delivered 3 = 0
+                reach 3 = 2
+                reach 0 = 2
                 """);
         script.run("16 the line is the node's own", """
                 send 0 agreed = 1
