@@ -25,8 +25,9 @@ public final class LanguageTest {
             "public int members(int)", "public int token(int)", "public int last(int)", "public int requests(int)",
             "public int reach(int)", "public int line(int)", "public int waiting(int)", "public int delivered(int)",
             "public int log(int,int)", "public int stamp(int)");
-    private static final String FORBIDDEN_WORDS = "\\b(throws?|try|catch|finally|synchronized|assert|import|package"
-            + "|protected|var|hashCode|toString|getClass|System|Random|Thread|volatile|native)\\b|->|::|\\w+Exact\\b";
+    private static final String FORBIDDEN_WORDS = "\\b(throws?|try|catch|finally|synchronized|assert|package|protected"
+            + "|hashCode|getClass|Random|Thread|volatile|native)\\b|::|\\w+Exact\\b|\\bSystem\\.(?!arraycopy\\b)"
+            + "|\\bimport (?!java\\.util\\.(ArrayList|List|Arrays|Iterator);)|\\bstatic \\{";
 
     private static int wrong = 0;
 
@@ -81,16 +82,19 @@ public final class LanguageTest {
 
     private static void privateNames(Class<?> type) {
         TreeSet<String> open = new TreeSet<>();
-        for (Method method : type.getMethods()) {
-            open.add(method.getName());
+        for (Method method : type.getDeclaredMethods()) {
+            if (Modifier.isPublic(method.getModifiers())) {
+                open.add(method.getName());
+            }
         }
         List<Class<?>> all = new ArrayList<>(Arrays.asList(type.getDeclaredClasses()));
         all.add(type);
         for (Class<?> each : all) {
             for (Method method : each.getDeclaredMethods()) {
-                boolean isFace = each == type && Modifier.isPublic(method.getModifiers());
-                fault(!isFace && open.contains(method.getName()), method + " bears the name of a public method");
+                fault(Modifier.isPrivate(method.getModifiers()) && open.contains(method.getName()),
+                        method + " bears the name of a public method");
                 fault(method.getParameterCount() > 7, method + " takes more than seven parameters");
+                fault(method.getName().startsWith("lambda$"), method + " is a lambda");
             }
         }
     }
@@ -109,8 +113,19 @@ public final class LanguageTest {
             int modifiers = each.getModifiers();
             fault(!Modifier.isStatic(modifiers), each + " is not static");
             fault(Modifier.isPublic(modifiers) || Modifier.isProtected(modifiers), each + " is too visible");
-            fault(each.getDeclaredFields().length > 20, each + " has too many fields");
+            fields(each);
         }
+        fields(RotatingTokenGroup.class);
+    }
+
+    private static void fields(Class<?> type) {
+        int many = 0;
+        for (Field field : type.getDeclaredFields()) {
+            boolean isStatic = Modifier.isStatic(field.getModifiers());
+            fault(isStatic && !Modifier.isFinal(field.getModifiers()), field + " is static, but not final");
+            many += isStatic ? 0 : 1;
+        }
+        fault(many > 20, type + " has too many fields");
     }
 
     private static void source(String text) {
@@ -119,7 +134,6 @@ public final class LanguageTest {
         while (found.find()) {
             fault(true, "the source has: " + found.group());
         }
-        fault(Pattern.compile("\\bstatic(?! final| boolean \\w+\\()").matcher(code).find(), "a static that is not final");
         methodLengths(code);
     }
 
