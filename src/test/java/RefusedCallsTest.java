@@ -23,7 +23,7 @@ public final class RefusedCallsTest {
             send 0 safe = 1; send 0 agreed = 2; send 0 agreed = 3; send 2 safe = 4; many send 3 agreed = 5 .. 12
             deafen 1 2 = true; deafen 4 1 = true
             visits 0 1 = 2 0; requests 0 = 2
-            deafen 3 2 = true; deafen 0 1 = true
+            deafen 3 3 = true; deafen 0 1 = true
             tick 0 = 0; tick 0 = 0; tick 0 = 0; tick 2 = 0; tick 3 = 0; tick 3 = 0; tick 4 = 0; tick 4 = 0; tick 4 = 0
             crash 1 = true; place 1 2 = true
             """;
@@ -35,7 +35,19 @@ public final class RefusedCallsTest {
             place 0 2 = true; form 0; send 0 agreed = 3; visit 0 = 1; tick 0 = 0; tick 0 = 0
             send 1 safe = 4; drop 1 = true; deafen 2 3 = true; tick 2 = 0; tick 2 = 0; tick 2 = 0
             """;
-    private static final List<String> STATES = List.of("", BUSY, BUSY + "drop 0 = true", APART,
+    // The marks are 1, that of node 4, which is down, for good.
+    private static final String MARKED = """
+            send 0 safe = 1; visits 0 1 2 3 4 = 1 0 0 0 0
+            crash 4 = true; send 0 safe = 2; send 1 agreed = 3; deafen 2 1 = true
+            """;
+    // Only node 0 held the first, and is down; node 1, which sent the second, is elsewhere; the third is of node 2.
+    private static final String LACKING = """
+            send 0 agreed = 1; send 1 agreed = 2; send 2 agreed = 3
+            deafen 1 1 = true; deafen 2 1 = true; deafen 3 1 = true; deafen 4 1 = true
+            visits 0 1 2 = 1 1 1
+            crash 0 = true; place 1 1 = true; many send 4 agreed = 4 .. 11
+            """;
+    private static final List<String> STATES = List.of("", BUSY, BUSY + "drop 0 = true", APART, MARKED, LACKING,
             TermsBoundaries.numberAll(40) + "many send 1 safe = 41 .. 48; tick 1 = 0; tick 1 = 0; deafen 2 4 = true",
             "crash 0 = true; crash 1 = true; crash 2 = true; crash 3 = true; crash 4 = true; place 3 2 = true");
 
@@ -46,9 +58,13 @@ public final class RefusedCallsTest {
     public static void main(String[] args) {
         RefusedCallsTest test = new RefusedCallsTest();
         List<List<String>> probes = probes();
+        Script told = new Script();
         for (String state : STATES) {
+            // A new object is a state too, and a run needs a call.
+            told.run("a state", state + "\nring 5 = BAD");
             test.tryIn(bare(state), probes);
         }
+        told.end();
         test.end();
     }
 
@@ -150,6 +166,7 @@ public final class RefusedCallsTest {
         String ends = "ask\n";
         List<String> texts = new ArrayList<>(List.of(
                 ends,
+                visits + ends,
                 visits.repeat(9) + ends,
                 restarts + visits.repeat(3) + ends,
                 "crash 0; crash 1; crash 2; crash 3; crash 4\n" + restarts + "tick 0; tick 0; tick 0; tick 0\n" + ends,
